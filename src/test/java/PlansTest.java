@@ -10,6 +10,7 @@ public final class PlansTest {
         promise16Best();
         promise16Ties();
         promise16Ten();
+        promise16One();
         promise17Mend();
         promise17Ties();
         promise18Trade();
@@ -144,6 +145,18 @@ public final class PlansTest {
         y.in(9, false);
         check.due("nine, in pairs", y.best(), 8);
         check.due("nine, kept", y.mend(), 8);
+    }
+
+    private static void promise16One() {
+        HomeRings x = Check.farms(1);
+        check.due("one alone, best", x.best(), 0);
+        check.duePlan(x, -1);
+        check.due("one alone, mend", x.mend(), 0);
+        check.duePlan(x, -1);
+        check.due("one alone, trade", x.trade(), 0);
+        check.due("one alone, blocks", x.blocks(), 0);
+        check.due("one alone, ring", x.ring(0), 0);
+        check.due("one alone, chain", x.chain(0), 0);
     }
 
     private static void promise17Mend() {
