@@ -41,7 +41,7 @@ public final class HomeRings {
     private int stay = 2;
     private int most = FAMILIES;
     private int limit = 0;
-    /** Whether the told row is a chain that travel() may still pay. */
+    /** Whether the row is a chain that travel() may still pay. */
     private boolean chainStands = false;
 
     public HomeRings() {
@@ -252,8 +252,9 @@ public final class HomeRings {
                 }
             }
         }
-        toldCount = ways.tellShortestRing(told);
-        return toldCount;
+        int length = ways.tellShortestRing(told);
+        keepRow(length);
+        return length;
     }
 
     public int ring(int family) {
@@ -261,7 +262,6 @@ public final class HomeRings {
         if (!isFamily(family)) {
             return NONE;
         }
-        toldCount = 0;
         if (goesTo[family] == NONE || faultOfClosing() != 0) {
             return 0;
         }
@@ -271,7 +271,7 @@ public final class HomeRings {
             told[i] = at;
             at = goesTo[at];
         }
-        toldCount = length;
+        keepRow(length);
         return length;
     }
 
@@ -288,9 +288,10 @@ public final class HomeRings {
                 addChainWaysTo(g, family);
             }
         }
-        toldCount = ways.tellLongestWay(family, told);
-        chainStands = toldCount > 0;
-        return chainStands ? toldCount - 1 : 0;
+        int length = ways.tellLongestWay(family, told);
+        keepRow(length);
+        chainStands = length > 0;
+        return chainStands ? length - 1 : 0;
     }
 
     public int travel() {
@@ -344,6 +345,13 @@ public final class HomeRings {
             throw new NoSuchElementException("no such number of the row");
         }
         return told[i];
+    }
+
+    /** A call that found nothing told no numbers, so the row is still that of the call before it. */
+    private void keepRow(int length) {
+        if (length > 0) {
+            toldCount = length;
+        }
     }
 
     // ---- what families are to one another
@@ -725,7 +733,7 @@ public final class HomeRings {
             homes[from] |= 1 << home;
         }
 
-        /** Tells the first of the shortest rings, and answers its length; 0 without one. */
+        /** Tells the first of the shortest rings, and answers its length; without one 0, and the row stays as it is. */
         int tellShortestRing(int[] row) {
             int shortest = FAMILIES + 1;
             int start = 0;
@@ -765,7 +773,7 @@ public final class HomeRings {
             return 0;
         }
 
-        /** Tells the first of the longest ways that meet none twice, and answers how many are on it; 0 if none goes. */
+        /** Tells the first of the longest ways that meet none twice, and answers how many are on it; without one as above. */
         int tellLongestWay(int from, int[] row) {
             findStarts();
             int steps = mostSteps(from);

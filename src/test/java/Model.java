@@ -279,8 +279,8 @@ final class Model {
                 first = ring;
             }
         }
-        row = first;
-        return row.size();
+        row = first.isEmpty() ? row : first;
+        return first.size();
     }
 
     int ring(int family) {
@@ -289,7 +289,10 @@ final class Model {
             return NONE;
         }
         int[] plan = plan();
-        row = plan[family] == NONE || !closes(plan) ? new ArrayList<>() : ringOf(plan, family);
+        if (plan[family] == NONE || !closes(plan)) {
+            return 0;
+        }
+        row = ringOf(plan, family);
         return row.size();
     }
 
@@ -310,9 +313,12 @@ final class Model {
                 longest = way;
             }
         }
+        if (longest.isEmpty()) {
+            return 0;
+        }
         row = longest;
-        chainIsLatest = !row.isEmpty();
-        return row.isEmpty() ? 0 : row.size() - 1;
+        chainIsLatest = true;
+        return row.size() - 1;
     }
 
     int travel() {

@@ -245,7 +245,7 @@ public final class PlansTest {
         check.due("MOST does not matter", x.blocks(), 3);
         Check.putAll(x, 1, 2, 0);
         check.due("none", x.blocks(), 0);
-        check.due("no numbers", x.count(3), 0);
+        check.dueRow(x, 0, 1, 2);
         check.duePlan(x, 1, 2, 0);
         HomeRings y = Check.wishing(new int[][] {{1}, {0}, {}});
         Check.putAll(y, 2, 2, 0);
@@ -256,6 +256,7 @@ public final class PlansTest {
         HomeRings z = Check.wishing(new int[][] {{1}, {0}});
         z.put(0, 1);
         check.due("the same home is not less", z.blocks(), 0);
+        check.due("none, and no row before it", z.count(3), 0);
         check.due("none", new HomeRings().blocks(), 0);
     }
 
@@ -284,13 +285,15 @@ public final class PlansTest {
         check.due("no family", x.ring(6), -1);
         check.due("no family", x.ring(-1), -1);
         check.due("no family", x.ring(SMALL), -1);
+        check.dueRow(x, 3, 1);
         check.due("does not go", x.ring(5), 0);
-        check.due("no numbers", x.count(3), 0);
+        check.dueRow(x, 3, 1);
         x.set(1, 2);
         check.due("MOST does not matter", x.ring(0), 3);
         check.dueRow(x, 0, 2, 4);
         x.put(5, 0);
         check.due("does not close", x.ring(1), 0);
+        check.dueRow(x, 0, 2, 4);
         x.put(5, -1);
         check.due("closes", x.ring(1), 2);
         x.in(4, false);

@@ -17,6 +17,7 @@ public final class PointsTest {
         promise25Undo();
         promise25Later();
         promise26Row();
+        promise26RowStays();
         check.end("PointsTest");
     }
 
@@ -48,7 +49,7 @@ public final class PointsTest {
         check.dueRow(x, 4, 5, 0, 1, 2);
         x.bar(4, 5, true);
         check.due("must take", x.chain(4), 0);
-        check.due("no numbers", x.count(3), 0);
+        check.dueRow(x, 4, 5, 0, 1, 2);
         check.due("takes none", x.chain(2), 0);
         check.due("no family", x.chain(6), -1);
         check.due("no family", x.chain(-1), -1);
@@ -56,6 +57,7 @@ public final class PointsTest {
         x.in(0, false);
         check.due("out", x.chain(0), 0);
         check.due("on to one who is out", x.chain(5), 0);
+        check.dueRow(x, 4, 5, 0, 1, 2);
     }
 
     private static void promise21Points() {
@@ -138,8 +140,10 @@ public final class PointsTest {
         check.dueRow(x, 0, 1, 2);
         check.due("once", x.travel(), -1);
         check.duePoints(x, -20, -10, 30);
-        x.chain(0);
-        check.due("0 owes 20", x.travel(), -1);
+        check.due("0 owes 20", x.chain(0), 0);
+        check.due("the row of the chain before is still told", x.count(3), 3);
+        check.due("and not paid once more", x.travel(), -1);
+        check.duePoints(x, -20, -10, 30);
     }
 
     private static HomeRings withChain() {
@@ -342,5 +346,29 @@ public final class PointsTest {
         x.set(2, 500);
         check.due("chain", x.chain(2), 2);
         check.dueRow(x, 2, 0, 1);
+    }
+
+    /** Calls that find nothing tell no numbers: the row is that of the call before them. */
+    private static void promise26RowStays() {
+        HomeRings x = Check.wishing(new int[][] {{1}, {0}, {}});
+        x.set(2, 500);
+        x.best();
+        check.due("ring", x.ring(1), 2);
+        check.due("blocks", x.blocks(), 0);
+        check.dueRow(x, 1, 0);
+        check.due("ring", x.ring(2), 0);
+        check.dueRow(x, 1, 0);
+        check.due("chain", x.chain(2), 0);
+        check.dueRow(x, 1, 0);
+        check.due("a ring is no chain", x.travel(), -1);
+        Check.putAll(x, -1, -1, -1);
+        check.due("chain", x.chain(0), 1);
+        check.due("blocks", x.blocks(), 2);
+        check.dueRow(x, 0, 1);
+        check.due("chain", x.chain(1), 1);
+        check.due("chain", x.chain(2), 0);
+        check.dueRow(x, 1, 0);
+        check.due("the latest chain told none", x.travel(), -1);
+        check.duePoints(x, 0, 0, 0);
     }
 }
