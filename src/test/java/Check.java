@@ -1,15 +1,27 @@
 import java.util.NoSuchElementException;
+import java.util.function.Predicate;
+import java.util.function.ToIntFunction;
 
 /** Counts and prints the calls whose answer is not the one that is due. */
 final class Check {
     private int wrong = 0;
     private int asked = 0;
+    private String test = "";
+
+    /** The words ahead of all that is printed from here on. */
+    void begin(String name) {
+        test = name;
+    }
+
+    int asked() {
+        return asked;
+    }
 
     void due(String call, long got, long want) {
         asked++;
         if (got != want) {
             wrong++;
-            System.out.println(call + " answered " + got + ", due is " + want);
+            System.out.println(test + call + " answered " + got + ", due is " + want);
         }
     }
 
@@ -74,10 +86,33 @@ final class Check {
         }
     }
 
+    /** The call answers as due, and changes nothing that can be asked. */
+    void dueNoChange(HomeRings x, String call, ToIntFunction<HomeRings> made, int want) {
+        String before = State.of(x);
+        due(call, made.applyAsInt(x), want);
+        dueSame(call, before, State.of(x));
+    }
+
+    /** The call of an object that has all that a call could change answers NONE, and changes nothing. */
+    void dueRefused(String call, ToIntFunction<HomeRings> made) {
+        dueNoChange(lived(), call, made, HomeRings.NONE);
+    }
+
+    void dueFalse(String call, Predicate<HomeRings> made) {
+        dueNoChange(lived(), call, x -> made.test(x) ? 1 : 0, 0);
+    }
+
+    private void dueSame(String call, String before, String behind) {
+        asked++;
+        if (!before.equals(behind)) {
+            fail(call + " changed" + before + "\n to" + behind);
+        }
+    }
+
     void fail(String text) {
         asked++;
         wrong++;
-        System.out.println(text);
+        System.out.println(test + text);
     }
 
     void end(String name) {
@@ -99,12 +134,48 @@ final class Check {
     /** Farms; row f holds the wishes of family f. */
     static HomeRings wishing(int[][] wishes) {
         HomeRings x = farms(wishes.length);
+        tellWishes(x, wishes);
+        return x;
+    }
+
+    /** Each wishes for the next, the last for the first. */
+    static int[][] circle(int families) {
+        int[][] wishes = new int[families][1];
+        for (int f = 0; f < families; f++) {
+            wishes[f][0] = (f + 1) % families;
+        }
+        return wishes;
+    }
+
+    /** Homes of worth 10, 20, 30, ..: each sleeps one more; row f holds the wishes of family f. */
+    static HomeRings homes(int[][] wishes) {
+        HomeRings x = new HomeRings();
+        for (int f = 0; f < wishes.length; f++) {
+            x.family(0, f + 1, 1, false);
+        }
+        tellWishes(x, wishes);
+        return x;
+    }
+
+    /** Three families with wishes, weeks, a bar, points, a year, a plan and a row: a change of any of these is seen. */
+    static HomeRings lived() {
+        HomeRings x = homes(new int[][] {{1, 2}, {0}, {0}});
+        x.best();
+        x.book();
+        x.weeks(0, 0, 10, 20);
+        x.weeks(2, 1, 5, 30);
+        x.bar(1, 2, true);
+        x.best();
+        x.ring(1);
+        return x;
+    }
+
+    private static void tellWishes(HomeRings x, int[][] wishes) {
         for (int f = 0; f < wishes.length; f++) {
             for (int home : wishes[f]) {
                 x.wish(f, home);
             }
         }
-        return x;
     }
 
     static void putAll(HomeRings x, int... plan) {

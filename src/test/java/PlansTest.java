@@ -21,14 +21,6 @@ public final class PlansTest {
         check.end("PlansTest");
     }
 
-    private static int[][] circle(int families) {
-        int[][] wishes = new int[families][1];
-        for (int f = 0; f < families; f++) {
-            wishes[f][0] = (f + 1) % families;
-        }
-        return wishes;
-    }
-
     private static void promise14Put() {
         HomeRings x = Check.farms(3);
         check.due("no wish needed", x.put(0, 2), true);
@@ -75,7 +67,7 @@ public final class PlansTest {
     }
 
     private static void promise16Best() {
-        HomeRings x = Check.wishing(circle(5));
+        HomeRings x = Check.wishing(Check.circle(5));
         check.due("all", x.best(), 5);
         check.duePlan(x, 1, 2, 3, 4, 0);
         x.set(1, 4);
@@ -124,7 +116,7 @@ public final class PlansTest {
     }
 
     private static void promise16Ten() {
-        HomeRings x = Check.wishing(circle(10));
+        HomeRings x = Check.wishing(Check.circle(10));
         check.due("ten", x.best(), 10);
         x.set(1, 9);
         check.due("nine at most", x.best(), 0);
@@ -205,7 +197,7 @@ public final class PlansTest {
         HomeRings y = Check.wishing(new int[][] {{1, 2, 3}, {0, 2}, {0, 3}, {1, 2}});
         check.due("two rings", y.trade(), 4);
         check.duePlan(y, 1, 0, 3, 2);
-        HomeRings z = Check.wishing(circle(10));
+        HomeRings z = Check.wishing(Check.circle(10));
         z.set(1, 2);
         check.due("rings of any length", z.trade(), 10);
         check.due("too long for MOST", z.wrong(), 40);
@@ -270,7 +262,7 @@ public final class PlansTest {
         HomeRings z = Check.wishing(new int[][] {{1}, {2}, {0, 3}, {2}});
         check.due("fewest", z.blocks(), 2);
         check.dueRow(z, 2, 3);
-        HomeRings w = Check.wishing(circle(10));
+        HomeRings w = Check.wishing(Check.circle(10));
         check.due("ten", w.blocks(), 10);
         check.dueRow(w, 0, 1, 2, 3, 4, 5, 6, 7, 8, 9);
     }

@@ -21,20 +21,6 @@ public final class PointsTest {
         check.end("PointsTest");
     }
 
-    /** Homes of worth 10, 20, 30, ..: a home that sleeps one more each. */
-    private static HomeRings homes(int[][] wishes) {
-        HomeRings x = new HomeRings();
-        for (int f = 0; f < wishes.length; f++) {
-            x.family(0, f + 1, 1, false);
-        }
-        for (int f = 0; f < wishes.length; f++) {
-            for (int home : wishes[f]) {
-                x.wish(f, home);
-            }
-        }
-        return x;
-    }
-
     private static void promise21Chain() {
         HomeRings x = Check.wishing(new int[][] {{3, 1}, {2}, {}, {4}, {}, {0}});
         x.set(2, 500);
@@ -61,7 +47,7 @@ public final class PointsTest {
     }
 
     private static void promise21Points() {
-        HomeRings x = homes(new int[][] {{1}, {2}, {0}});
+        HomeRings x = Check.homes(new int[][] {{1}, {2}, {0}});
         check.due("nothing to pay with", x.chain(0), 0);
         x.set(2, 19);
         check.due("one point below", x.chain(0), 0);
@@ -75,7 +61,7 @@ public final class PointsTest {
         check.due("one point below", x.chain(2), 0);
         x.set(2, 10);
         check.due("at the limit", x.chain(2), 2);
-        HomeRings y = homes(new int[][] {{}, {0}, {}, {2}, {3}, {4}});
+        HomeRings y = Check.homes(new int[][] {{}, {0}, {}, {2}, {3}, {4}});
         y.set(2, 50);
         y.chain(5);
         check.due("all on the way can pay", y.travel(), 3);
@@ -128,7 +114,7 @@ public final class PointsTest {
     }
 
     private static void promise22Travel() {
-        HomeRings x = homes(new int[][] {{1}, {2}, {}});
+        HomeRings x = Check.homes(new int[][] {{1}, {2}, {}});
         check.due("no chain", x.travel(), -1);
         x.chain(0);
         check.due("it told none", x.travel(), -1);
@@ -147,7 +133,7 @@ public final class PointsTest {
     }
 
     private static HomeRings withChain() {
-        HomeRings x = homes(new int[][] {{1}, {2, 0}, {}});
+        HomeRings x = Check.homes(new int[][] {{1}, {2, 0}, {}});
         x.set(2, 500);
         x.chain(0);
         return x;
@@ -216,7 +202,7 @@ public final class PointsTest {
     }
 
     private static void promise23Book() {
-        HomeRings x = homes(new int[][] {{1}, {2}, {0}, {}});
+        HomeRings x = Check.homes(new int[][] {{1}, {2}, {0}, {}});
         check.due("three", x.best(), 3);
         x.set(1, 2);
         check.due("MOST and LIMIT do not matter", x.book(), 3);
@@ -233,7 +219,7 @@ public final class PointsTest {
     }
 
     private static void promise23Years() {
-        HomeRings x = homes(new int[][] {{1}, {0}});
+        HomeRings x = Check.homes(new int[][] {{1}, {0}});
         for (int year = 0; year < 60; year++) {
             x.put(0, 1);
             x.put(1, 0);
@@ -287,7 +273,7 @@ public final class PointsTest {
     }
 
     private static void promise25Undo() {
-        HomeRings x = homes(new int[][] {{1}, {0}, {3}, {2}});
+        HomeRings x = Check.homes(new int[][] {{1}, {0}, {3}, {2}});
         check.due("no year", x.undo(), -1);
         x.best();
         x.book();
@@ -308,7 +294,7 @@ public final class PointsTest {
     }
 
     private static void promise25Later() {
-        HomeRings x = homes(new int[][] {{1}, {0}});
+        HomeRings x = Check.homes(new int[][] {{1}, {0}});
         x.best();
         x.book();
         x.family(0, 3, 1, false);
