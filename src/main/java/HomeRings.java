@@ -850,7 +850,8 @@ public final class HomeRings {
         private static final int STAYS = FAMILIES;
         /** 11 to the power of 10: above every plan's number. */
         private static final long ONE_MERIT = 25937424601L;
-        private static final long MISSING = Long.MIN_VALUE;
+        /** Far below every score. */
+        private static final long MISSING = -1L << 62;
         private static final int OTHERS = FAMILIES - 1;
 
         private final long[] places = new long[FAMILIES];

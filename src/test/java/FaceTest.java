@@ -20,7 +20,8 @@ public final class FaceTest {
         "int travel()", "int book()", "int went(int, int)", "int undo()",
         "int row(int) throws NoSuchElementException"};
     private static final String[] BARRED = {"catch", "finally", "synchronized", "assert", "->", "::", "System.",
-        "Exact(", "static {", "Random", "Thread", "new Object", "instanceof", "Integer.valueOf", "hashCode"};
+        "Exact(", "static {", "Random", "Thread", "new Object", "instanceof", "Integer.valueOf", "hashCode",
+        "_VALUE"};
 
     public static void main(String[] args) throws Exception {
         checkMethods();

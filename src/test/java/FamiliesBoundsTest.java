@@ -4,8 +4,6 @@ public final class FamiliesBoundsTest {
     private static final int NONE = HomeRings.NONE;
     private static final int BIG = Integer.MAX_VALUE;
     private static final int SMALL = Integer.MIN_VALUE;
-    /** No families of an object with three. */
-    private static final int[] NO_FAMILIES = {-1, 3, 10, -2, 255, 256, BIG, SMALL};
 
     public static void main(String[] args) throws Exception {
         Sentences.runAll(FamiliesBoundsTest.class, check, 1, 13);
@@ -207,7 +205,7 @@ public final class FamiliesBoundsTest {
     @Sentence(promise = 3, says = "false for others: FAMILIES")
     private static void weeksFamily() {
         HomeRings x = Check.lived();
-        for (int family : NO_FAMILIES) {
+        for (int family : Check.NO_FAMILIES) {
             check.dueFalse("weeks(" + family + ", 0, 1, 2)", y -> y.weeks(family, 0, 1, 2));
             check.dueFalse("weeks(" + family + ", 1, 1, 2)", y -> y.weeks(family, 1, 1, 2));
         }
@@ -232,7 +230,7 @@ public final class FamiliesBoundsTest {
     @Sentence(promise = 4, says = "NONE: no such FAMILIES")
     private static void wishFamilies() {
         HomeRings x = Check.lived();
-        for (int family : NO_FAMILIES) {
+        for (int family : Check.NO_FAMILIES) {
             check.dueRefused("wish(" + family + ", 1)", y -> y.wish(family, 1));
             check.dueRefused("wish(1, " + family + ")", y -> y.wish(1, family));
         }
@@ -275,11 +273,10 @@ public final class FamiliesBoundsTest {
 
     @Sentence(promise = 5, says = "-2: n below 0 (of kinds 0, 1)")
     private static void wishesBelowZero() {
-        HomeRings x = Check.lived();
         for (int kind = 0; kind < 2; kind++) {
             int is = kind;
-            check.dueNoChange(x, "n -1 of kind " + kind, y -> y.wishes(0, is, -1, 2, 0), -2);
-            check.dueNoChange(x, "n SMALL of kind " + kind, y -> y.wishes(0, is, SMALL, 2, 0), -2);
+            check.dueNoChange(Check.lived(), "n -1 of kind " + kind, y -> y.wishes(0, is, -1, 2, 0), -2);
+            check.dueNoChange(Check.lived(), "n SMALL of kind " + kind, y -> y.wishes(0, is, SMALL, 2, 0), -2);
         }
     }
 
@@ -316,7 +313,7 @@ public final class FamiliesBoundsTest {
     @Sentence(promise = 5, says = "NONE: no such FAMILY")
     private static void wishesFamily() {
         HomeRings x = Check.lived();
-        for (int family : NO_FAMILIES) {
+        for (int family : Check.NO_FAMILIES) {
             for (int kind = 0; kind < 3; kind++) {
                 int is = kind;
                 check.due("family " + family + ", kind " + kind, x.wishes(family, is, 1, 0, 1), NONE);
@@ -450,7 +447,7 @@ public final class FamiliesBoundsTest {
     @Sentence(promise = 6, says = "false for none such")
     private static void barFamilies() {
         HomeRings x = Check.lived();
-        for (int family : NO_FAMILIES) {
+        for (int family : Check.NO_FAMILIES) {
             check.dueFalse("bar(0, " + family + ")", y -> y.bar(0, family, true));
             check.dueFalse("bar(" + family + ", 0)", y -> y.bar(family, 0, true));
         }
@@ -497,7 +494,7 @@ public final class FamiliesBoundsTest {
     @Sentence(promise = 7, says = "false for none such")
     private static void inFamily() {
         HomeRings x = Check.lived();
-        for (int family : NO_FAMILIES) {
+        for (int family : Check.NO_FAMILIES) {
             check.dueFalse("in(" + family + ", false)", y -> y.in(family, false));
             check.dueFalse("in(" + family + ", true)", y -> y.in(family, true));
         }
@@ -708,7 +705,7 @@ public final class FamiliesBoundsTest {
     private static void ofFamily() {
         HomeRings x = Check.lived();
         String before = State.of(x);
-        for (int family : NO_FAMILIES) {
+        for (int family : Check.NO_FAMILIES) {
             for (int what = 0; what < 8; what++) {
                 check.dueOfThrows(x, family, what);
             }
@@ -825,6 +822,10 @@ public final class FamiliesBoundsTest {
         check.dueOf(x, 0, 7, 6);
         x.in(0, false);
         check.dueOf(x, 0, 7, 0);
+        HomeRings y = Check.wishing(new int[][] {{}, {0}, {}});
+        check.dueOf(y, 1, 7, 1);
+        y.in(2, false);
+        check.dueOf(y, 1, 7, 1);
     }
 
     // ---- 11: rank
@@ -832,7 +833,7 @@ public final class FamiliesBoundsTest {
     @Sentence(promise = 11, says = "NONE: none such")
     private static void rankFamilies() {
         HomeRings x = Check.lived();
-        for (int family : NO_FAMILIES) {
+        for (int family : Check.NO_FAMILIES) {
             check.due("rank(0, " + family + ")", x.rank(0, family), NONE);
             check.due("rank(" + family + ", 0)", x.rank(family, 0), NONE);
             check.due("rank twice " + family, x.rank(family, family), NONE);
@@ -868,7 +869,7 @@ public final class FamiliesBoundsTest {
     @Sentence(promise = 12, says = "NONE: none such")
     private static void canFamilies() {
         HomeRings x = Check.lived();
-        for (int family : NO_FAMILIES) {
+        for (int family : Check.NO_FAMILIES) {
             check.due("can(0, " + family + ")", x.can(0, family), NONE);
             check.due("can(" + family + ", 0)", x.can(family, 0), NONE);
             check.due("can twice " + family, x.can(family, family), NONE);
@@ -992,7 +993,7 @@ public final class FamiliesBoundsTest {
     @Sentence(promise = 13, says = "NONE if it CAN not: none such, its own")
     private static void weekFamilies() {
         HomeRings x = Check.lived();
-        for (int family : NO_FAMILIES) {
+        for (int family : Check.NO_FAMILIES) {
             check.due("week(0, " + family + ")", x.week(0, family), NONE);
             check.due("week(" + family + ", 0)", x.week(family, 0), NONE);
         }

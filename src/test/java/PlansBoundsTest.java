@@ -4,8 +4,6 @@ public final class PlansBoundsTest {
     private static final int NONE = HomeRings.NONE;
     private static final int BIG = Integer.MAX_VALUE;
     private static final int SMALL = Integer.MIN_VALUE;
-    /** No families of an object with three. */
-    private static final int[] NO_FAMILIES = {-1, 3, 10, -2, 255, 256, BIG, SMALL};
 
     public static void main(String[] args) throws Exception {
         Sentences.runAll(PlansBoundsTest.class, check, 14, 20);
@@ -25,7 +23,7 @@ public final class PlansBoundsTest {
 
     @Sentence(promise = 14, says = "false for none such: the FAMILY")
     private static void putFamily() {
-        for (int family : NO_FAMILIES) {
+        for (int family : Check.NO_FAMILIES) {
             check.dueFalse("put(" + family + ", 0)", y -> y.put(family, 0));
             check.dueFalse("put(" + family + ", NONE)", y -> y.put(family, NONE));
         }
@@ -444,6 +442,23 @@ public final class PlansBoundsTest {
         check.duePlan(x, 3, -1, -1, 0);
     }
 
+    @Sentence(promise = 18, says = "then there is a RING of those who show: these go so, and leave")
+    private static void tradeRing() {
+        HomeRings x = Check.wishing(new int[][] {{1, 3}, {2}, {1}, {1, 0}});
+        check.due("0 and 3 show 1, and are not in its ring", x.trade(), 4);
+        check.duePlan(x, 3, 2, 1, 0);
+        HomeRings y = Check.wishing(new int[][] {{9}, {0}, {1}, {2}, {3}, {4}, {5}, {6}, {9}, {8}});
+        check.due("a long row of those who show leads to a pair", y.trade(), 2);
+        check.duePlan(y, -1, -1, -1, -1, -1, -1, -1, -1, 9, 8);
+    }
+
+    @Sentence(promise = 18, says = "(of several the one with the least number)")
+    private static void tradeSeveralRings() {
+        HomeRings x = Check.wishing(new int[][] {{9}, {8}, {3}, {4}, {2}, {}, {}, {}, {1}, {0}});
+        check.due("three at once", x.trade(), 7);
+        check.duePlan(x, 9, 8, 3, 4, 2, -1, -1, -1, 1, 0);
+    }
+
     @Sentence(promise = 18, says = "again and again: as many rounds as there can be")
     private static void tradeRounds() {
         HomeRings x = Check.farms(10);
@@ -543,6 +558,19 @@ public final class PlansBoundsTest {
         check.dueRow(z, 0, 2, 1);
     }
 
+    @Sentence(promise = 19, says = "A RING: ways that do not come round, or not so soon, do not count")
+    private static void blocksComeRound() {
+        HomeRings x = Check.wishing(new int[][] {{1, 2}, {}, {3}, {0}});
+        check.due("1 goes nowhere on", x.blocks(), 3);
+        check.dueRow(x, 0, 2, 3);
+        HomeRings y = Check.wishing(new int[][] {{2}, {3}, {3}, {0}});
+        check.due("none comes to 1", y.blocks(), 3);
+        check.dueRow(y, 0, 2, 3);
+        HomeRings z = Check.wishing(new int[][] {{1, 3}, {2}, {4}, {4}, {0}});
+        check.due("0 1 2 4 is longer", z.blocks(), 3);
+        check.dueRow(z, 0, 3, 4);
+    }
+
     @Sentence(promise = 19, says = "(MOST does not matter.)")
     private static void blocksAnyLength() {
         HomeRings x = Check.wishing(Check.circle(10));
@@ -555,7 +583,7 @@ public final class PlansBoundsTest {
 
     @Sentence(promise = 20, says = "NONE: none such")
     private static void ringFamily() {
-        for (int family : NO_FAMILIES) {
+        for (int family : Check.NO_FAMILIES) {
             check.dueRefused("ring(" + family + ")", y -> y.ring(family));
         }
         check.due("no families", new HomeRings().ring(0), NONE);

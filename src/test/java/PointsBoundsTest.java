@@ -9,8 +9,6 @@ public final class PointsBoundsTest {
     private static final int BIG = Integer.MAX_VALUE;
     private static final int SMALL = Integer.MIN_VALUE;
     private static final int YEARS = 60;
-    /** No families of an object with three. */
-    private static final int[] NO_FAMILIES = {-1, 3, 10, -2, 255, 256, BIG, SMALL};
 
     public static void main(String[] args) throws Exception {
         Sentences.runAll(PointsBoundsTest.class, check, 21, 26);
@@ -38,7 +36,7 @@ public final class PointsBoundsTest {
 
     @Sentence(promise = 21, says = "NONE: no such FAMILY")
     private static void chainFamily() {
-        for (int family : NO_FAMILIES) {
+        for (int family : Check.NO_FAMILIES) {
             check.dueRefused("chain(" + family + ")", y -> y.chain(family));
         }
         check.due("no families", new HomeRings().chain(0), NONE);
@@ -188,6 +186,24 @@ public final class PointsBoundsTest {
         check.dueRow(y, 0, 1, 2);
     }
 
+    @Sentence(promise = 21, says = "each FAMILY once: ten who wish for all")
+    private static void chainFull() {
+        HomeRings x = Check.farms(10);
+        x.set(2, 500);
+        for (int f = 0; f < 10; f++) {
+            for (int home = 9; home >= 0; home--) {
+                x.wish(f, home);
+            }
+        }
+        check.due("all but the last go", x.chain(4), 9);
+        check.dueRow(x, 4, 0, 1, 2, 3, 5, 6, 7, 8, 9);
+        for (int f = 0; f < 10; f++) {
+            x.wishes(f, 1, f == 4 || f == 5 ? 1 : 0, f + 1, 0);
+        }
+        check.due("a short one behind it", x.chain(4), 2);
+        check.dueRow(x, 4, 5, 6);
+    }
+
     @Sentence(promise = 21, says = "The longest one")
     private static void chainLongest() {
         HomeRings x = wishing(new int[][] {{1, 2}, {}, {3}, {}});
@@ -195,6 +211,9 @@ public final class PointsBoundsTest {
         check.dueRow(x, 0, 2, 3);
         check.due("one", x.chain(2), 1);
         check.dueRow(x, 2, 3);
+        HomeRings z = wishing(new int[][] {{}, {0, 2}, {3}, {}});
+        check.due("two, though 0 is less", z.chain(1), 2);
+        check.dueRow(z, 1, 2, 3);
         HomeRings y = wishing(new int[][] {{9, 1}, {2, 9}, {9}, {}, {}, {}, {}, {}, {}, {}});
         check.due("three", y.chain(0), 3);
         check.dueRow(y, 0, 1, 2, 9);
@@ -441,7 +460,7 @@ public final class PointsBoundsTest {
     private static void wentFamily() {
         HomeRings x = Check.lived();
         x.book();
-        for (int family : NO_FAMILIES) {
+        for (int family : Check.NO_FAMILIES) {
             check.due("went(0, " + family + ")", x.went(0, family), NONE);
             check.due("went(1, " + family + ")", x.went(1, family), NONE);
         }
